@@ -65,6 +65,7 @@ public final class ThankingGifts {
             case 3:
                 return house.now.woken[sleeper];
             case 4:
+                house.listen();
                 return house.isAsleep(sleeper) ? 1 : 0;
             default:
                 return BAD;
@@ -87,7 +88,7 @@ public final class ThankingGifts {
             case 4:
                 return house.now.left[thing];
             case 5:
-                return house.loudOf(thing);
+                return house.loudWith(thing, house.now.left[thing], 0);
             default:
                 return BAD;
         }
@@ -99,7 +100,8 @@ public final class ThankingGifts {
         }
         switch (what) {
             case 0:
-                return house.loudIn(room);
+                house.listen();
+                return house.roomLoud[room];
             case 1:
                 return house.thingsIn(room);
             case 2:
@@ -665,6 +667,7 @@ public final class ThankingGifts {
         final int[] bears = new int[SLEEPERS];
         final int[] kind = new int[THINGS];
         final int[] dear = new int[THINGS];
+        final int[] roomLoud = new int[ROOMS];
         final Moment now = new Moment();
         int sleepers;
         int things;
@@ -723,28 +726,20 @@ public final class ThankingGifts {
         }
 
         /** In the NIGHT that is k nights from now, if so much is LEFT then. */
-        int loudOf(int thing, int left, int k) {
+        int loudWith(int thing, int left, int k) {
             return left == 0 ? 0 : kinds[kind[thing]].loudness(dear[thing], now.night + k);
-        }
-
-        int loudOf(int thing) {
-            return loudOf(thing, now.left[thing], 0);
         }
 
         int loudOfSet(int set) {
             int loud = 0;
             for (int t = 0; t < things; t++) {
-                loud += isIn(set, t) ? loudOf(t) : 0;
+                loud += isIn(set, t) ? loudWith(t, now.left[t], 0) : 0;
             }
             return loud;
         }
 
         int loudOfAll() {
             return loudOfSet((1 << things) - 1);
-        }
-
-        int loudIn(int room) {
-            return loudOfSet(thingsIn(room));
         }
 
         int thingsIn(int room) {
@@ -763,12 +758,24 @@ public final class ThankingGifts {
             return placesOf(room, bed, sleepers);
         }
 
+        /** So that each THING is asked once a NIGHT, not once for each SLEEPER. */
+        void listen() {
+            for (int r = 0; r < ROOMS; r++) {
+                roomLoud[r] = 0;
+            }
+            for (int t = 0; t < things; t++) {
+                roomLoud[now.place[t]] += loudWith(t, now.left[t], 0);
+            }
+        }
+
+        /** By the latest listening. */
         boolean isAsleep(int sleeper) {
-            return loudIn(bed[sleeper]) <= bears[sleeper];
+            return roomLoud[bed[sleeper]] <= bears[sleeper];
         }
 
         int spendNight() {
             int wokenNow = 0;
+            listen();
             for (int s = 0; s < sleepers; s++) {
                 if (isAsleep(s)) {
                     now.slept[s]++;
@@ -859,7 +866,7 @@ public final class ThankingGifts {
             for (int t = 0; t < things; t++) {
                 int left = house.now.left[t];
                 for (int k = 0; k < nights; k++) {
-                    thingLoud[k * THINGS + t] = house.loudOf(t, left, k);
+                    thingLoud[k * THINGS + t] = house.loudWith(t, left, k);
                     left = house.leftBehind(house.kind[t], house.dear[t], left, k);
                 }
             }
