@@ -1,3 +1,7 @@
+import java.io.IOException;
+import java.io.UncheckedIOException;
+import java.nio.file.Files;
+import java.nio.file.Path;
 import java.util.ArrayList;
 import java.util.List;
 
@@ -6,18 +10,30 @@ final class Due {
     private static final int MOST_TOLD = 40;
     private final List<String> wrong = new ArrayList<>();
     private int asked;
+    private String document;
+    private String said = "";
+
+    /** What follows is a test of these words, which must stand in the document. */
+    void sentence(String words) {
+        if (document == null) {
+            document = readDocument();
+        }
+        said = "";
+        isTrue("the document says '" + words + "'", document.contains(words));
+        said = "'" + words + "': ";
+    }
 
     void is(String call, long got, long want) {
         asked++;
         if (got != want) {
-            wrong.add(call + " answered " + got + ", due is " + want);
+            wrong.add(said + call + " answered " + got + ", due is " + want);
         }
     }
 
     void isTrue(String claim, boolean holds) {
         asked++;
         if (!holds) {
-            wrong.add("not so: " + claim);
+            wrong.add(said + "not so: " + claim);
         }
     }
 
@@ -36,6 +52,14 @@ final class Due {
         }
     }
 
+    private static String readDocument() {
+        try {
+            return Files.readString(Path.of("../shared/DOC.md")).replaceAll("\\s+", " ");
+        } catch (IOException e) {
+            throw new UncheckedIOException(e);
+        }
+    }
+
     static void type(ThankingGifts x, String text) {
         for (int i = 0; i < text.length(); i++) {
             x.type(text.charAt(i));
@@ -51,6 +75,15 @@ final class Due {
         ThankingGifts x = new ThankingGifts();
         if (house(x, text) < 0) {
             throw new IllegalArgumentException("no house: " + text);
+        }
+        return x;
+    }
+
+    /** In as few calls as can be, for an object is used for 512 of them. */
+    static ThankingGifts houseInNight(String text, int night) {
+        ThankingGifts x = houseOf(text);
+        for (int left = night; left > 0; left -= 40) {
+            x.nights(Math.min(left, 40));
         }
         return x;
     }
