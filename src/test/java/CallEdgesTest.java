@@ -126,7 +126,7 @@ public final class CallEdgesTest {
     }
 
     private static void nightsAtOnce() {
-        DUE.sentence("n NIGHTS (1 .. 40): how often all were WOKEN in these. BAD; FULL: the NIGHT would be above 9999.");
+        DUE.sentence("n NIGHTS (1 .. 40): how often all were WOKEN in these. BAD;");
         DUE.sentence("A DRIFT of n NIGHTS (1 .. 40): how often all were WOKEN in these. BAD; FULL: likewise.");
         ThankingGifts x = Due.houseOf("0:0,0:0;f090");
         x.seed(1742513795);

@@ -91,7 +91,8 @@ public final class RandomRunsTest {
         if (way < WILD.length) {
             return WILD[way];
         }
-        return way == 10 ? least - (least > Integer.MIN_VALUE ? 1 : 0) : way == 11 ? most + (most < Integer.MAX_VALUE ? 1 : 0)
+        return way == 10 ? least - (least > Integer.MIN_VALUE ? 1 : 0)
+                : way == 11 ? most + (most < Integer.MAX_VALUE ? 1 : 0)
                 : way < 16 ? least : way < 20 ? most : least + (long) (random.nextDouble() * (most - least + 1));
     }
 

@@ -19,22 +19,33 @@ public final class RefusalsTest {
     private static final Due DUE = new Due();
 
     public static void main(String[] args) {
-        DUE.sentence("What is refused changes nothing, but as told.");
-        sleepersAndThings();
-        whatIsAsked();
-        bedAndTape();
-        whatIsDone();
+        ofSeveralTheFirst();
+        butAsTold();
+        newSleepers();
+        newThings();
+        ofSleepersThingsRooms();
+        counts();
+        beds();
+        letters();
+        faults();
+        nightsAndDrifts();
+        movedPassedGivenBack();
+        undoneAndSeeds();
         foretold();
-        hadBetter();
-        lucky();
+        bestRooms();
+        bestBeds();
+        changes();
+        backs();
+        lucks();
+        thanked();
         images();
-        heard();
-        film();
+        heardBad();
+        heardOfTheMachine();
+        films();
         sheets();
         items();
         copies();
         ofANewObject();
-        DUE.sentence("FORETOLD from now (nothing is changed)");
         askingChangesNothing();
         DUE.close("RefusalsTest");
     }
@@ -76,7 +87,9 @@ public final class RefusalsTest {
         return x;
     }
 
-    private static void refused(String label, Supplier<ThankingGifts> made, ToIntFunction<ThankingGifts> call, int want) {
+    /** "What is refused changes nothing, but as told." */
+    private static void refused(String label, Supplier<ThankingGifts> made, ToIntFunction<ThankingGifts> call,
+            int want) {
         ThankingGifts refusing = made.get();
         DUE.is(label, call.applyAsInt(refusing), want);
         List<Integer> all = allOf(refusing);
@@ -103,6 +116,7 @@ public final class RefusalsTest {
         }
         all.add(x.restore());
         tellMoment(x, all);
+        all.add(x.seed(0));
         all.add(x.undo());
         tellMoment(x, all);
         all.add(x.type(' '));
@@ -150,17 +164,57 @@ public final class RefusalsTest {
         }
     }
 
-    private static void sleepersAndThings() {
+    /** One row a pair that may hold at once; each number that makes them so has its row further below. */
+    private static void ofSeveralTheFirst() {
+        DUE.sentence("Answers below 0, of several the first that a call names");
+        refused("BAD, FULL: sleeper", RefusalsTest::full, x -> x.sleeper(4, 61), BAD);
+        refused("BAD, FULL: thing", RefusalsTest::full, x -> x.thing(5, 10, 0, 4), BAD);
+        refused("BAD, FULL: type", RefusalsTest::full, x -> x.type(127), BAD);
+        refused("BAD, FULL: nights", RefusalsTest::late, x -> x.nights(41), BAD);
+        refused("BAD, FULL: drift", RefusalsTest::late, x -> x.drift(41), BAD);
+        refused("BAD, SIZE: sheet", x -> x.sheet(4, 4, -1), BAD);
+        refused("BAD, NULL, INDEX: heard", x -> x.heard(5, 3, BYTES, -1, 9, 2), BAD);
+        refused("BAD, CAST, INDEX: heard", x -> x.heard(5, 0, LONGS, -1, 9, 2), BAD);
+        refused("NULL, INDEX: heard", x -> x.heard(0, 3, BYTES, -1, 8, 1), NULL);
+        refused("CAST, INDEX: heard", x -> x.heard(0, 0, LONGS, -1, 8, 1), CAST);
+        refused("BAD, NULL, INDEX: film", x -> x.film(5, 25, 3, BYTES, -1), BAD);
+        refused("BAD, CAST, INDEX: film", x -> x.film(5, 25, 0, LONGS, -1), BAD);
+        refused("NULL, INDEX: film", x -> x.film(0, 24, 3, BYTES, -1), NULL);
+        refused("CAST, INDEX: film", x -> x.film(0, 24, 0, LONGS, -1), CAST);
+        refused("BAD, NULL, INDEX: item", x -> x.item(3, 4, -1, 5), BAD);
+        refused("NULL, INDEX: item", x -> x.item(3, BYTES, -1, 5), NULL);
+        refused("CAST, INDEX: item", x -> x.item(0, LONGS, -1, 5), CAST);
+        refused("BAD, NULL, INDEX: copy", x -> x.copy(3, -1, 4, -1, -1), BAD);
+        refused("NULL, INDEX: copy", x -> x.copy(3, -1, 0, -1, -1), NULL);
+        refused("CAST, INDEX: copy", x -> x.copy(0, -1, 1, -1, -1), CAST);
+    }
+
+    private static void butAsTold() {
+        DUE.sentence("What is refused changes nothing, but as told.");
+        ThankingGifts x = lived();
+        DUE.is("a letter more, and it is no house", x.type('x'), 8);
+        DUE.is("a fault", x.house(), -27);
+        DUE.is("the tape is empty then", x.type('0'), 1);
+        ThankingGifts untold = lived();
+        DUE.is("no letter", untold.type(31), BAD);
+        DUE.is("the tape is as it was", untold.house(), 2);
+    }
+
+    private static void newSleepers() {
+        DUE.sentence("A SLEEPER: its number. BAD; FULL: 5.");
         for (int no : NO_ROOM) {
-            refused("sleeper in room " + no, x -> x.sleeper(no, 5), BAD);
-            refused("thing in room " + no, x -> x.thing(0, 0, 1, no), BAD);
-            refused("sleeper in room " + no + ", full", RefusalsTest::full, x -> x.sleeper(no, 5), BAD);
-            refused("thing in room " + no + ", full", RefusalsTest::full, x -> x.thing(0, 0, 1, no), BAD);
+            refused("in room " + no, x -> x.sleeper(no, 5), BAD);
+            refused("in room " + no + ", full", RefusalsTest::full, x -> x.sleeper(no, 5), BAD);
         }
         for (int no : new int[] {-1, 61, LOW, HIGH}) {
-            refused("sleeper bears " + no, x -> x.sleeper(0, no), BAD);
-            refused("sleeper bears " + no + ", full", RefusalsTest::full, x -> x.sleeper(0, no), BAD);
+            refused("bears " + no, x -> x.sleeper(0, no), BAD);
+            refused("bears " + no + ", full", RefusalsTest::full, x -> x.sleeper(0, no), BAD);
         }
+        refused("a sixth", RefusalsTest::full, x -> x.sleeper(3, 60), FULL);
+    }
+
+    private static void newThings() {
+        DUE.sentence("A THING: its number. BAD; FULL: 8.");
         for (int no : new int[] {-1, 5, LOW, HIGH}) {
             refused("kind " + no, x -> x.thing(no, 0, 1, 0), BAD);
             refused("kind " + no + ", full", RefusalsTest::full, x -> x.thing(no, 0, 1, 0), BAD);
@@ -173,60 +227,73 @@ public final class RefusalsTest {
             refused("dear by " + no, x -> x.thing(0, 0, no, 0), BAD);
             refused("dear by " + no + ", full", RefusalsTest::full, x -> x.thing(0, 0, no, 0), BAD);
         }
-        refused("a sixth sleeper", RefusalsTest::full, x -> x.sleeper(3, 60), FULL);
-        refused("a ninth thing", RefusalsTest::full, x -> x.thing(4, 9, 9, 3), FULL);
+        for (int no : NO_ROOM) {
+            refused("in room " + no, x -> x.thing(0, 0, 1, no), BAD);
+            refused("in room " + no + ", full", RefusalsTest::full, x -> x.thing(0, 0, 1, no), BAD);
+        }
+        refused("a ninth", RefusalsTest::full, x -> x.thing(4, 9, 9, 3), FULL);
     }
 
-    private static void whatIsAsked() {
-        for (int no : NO_SLEEPER) {
-            for (int what = 0; what <= 4; what++) {
+    private static void ofSleepersThingsRooms() {
+        DUE.sentence("4 whether it sleeps in this NIGHT (1, 0). BAD.");
+        refusedOfEach(NO_SLEEPER, 4, ThankingGifts::of);
+        DUE.sentence("4 LEFT, 5 how LOUD in this NIGHT. BAD.");
+        refusedOfEach(NO_THING, 5, ThankingGifts::gift);
+        DUE.sentence("which THINGS are in it (1, a set), which SLEEPERS (2, a set). BAD.");
+        refusedOfEach(NO_ROOM, 2, ThankingGifts::room);
+    }
+
+    /** A call of a number and of what is asked of it, 0 .. most. */
+    private interface Asking {
+        int ask(ThankingGifts x, int number, int what);
+    }
+
+    private static void refusedOfEach(int[] noNumbers, int most, Asking call) {
+        for (int no : noNumbers) {
+            for (int what = 0; what <= most; what++) {
                 int asked = what;
-                refused("of " + no, x -> x.of(no, asked), BAD);
+                refused("number " + no + ", what " + what, x -> call.ask(x, no, asked), BAD);
             }
         }
-        for (int no : NO_THING) {
-            for (int what = 0; what <= 5; what++) {
-                int asked = what;
-                refused("gift " + no, x -> x.gift(no, asked), BAD);
-            }
+        for (int no : new int[] {-1, most + 1, LOW, HIGH}) {
+            refused("what " + no, x -> call.ask(x, 0, no), BAD);
         }
-        for (int no : NO_ROOM) {
-            for (int what = 0; what <= 2; what++) {
-                int asked = what;
-                refused("room " + no, x -> x.room(no, asked), BAD);
-            }
-        }
-        for (int no : new int[] {-1, 5, LOW, HIGH}) {
-            refused("of, what " + no, x -> x.of(0, no), BAD);
-        }
-        for (int no : new int[] {-1, 6, LOW, HIGH}) {
-            refused("gift, what " + no, x -> x.gift(0, no), BAD);
-        }
-        for (int no : new int[] {-1, 3, LOW, HIGH}) {
-            refused("room, what " + no, x -> x.room(0, no), BAD);
-        }
+    }
+
+    private static void counts() {
+        DUE.sentence("7 were WOKEN, 8 what may be UNDONE. BAD.");
         for (int no : new int[] {-1, 9, LOW, HIGH}) {
-            refused("count, what " + no, x -> x.count(no), BAD);
+            refused("what " + no, x -> x.count(no), BAD);
         }
     }
 
-    private static void bedAndTape() {
+    private static void beds() {
+        DUE.sentence("A SLEEPER is in another ROOM (or the same): in which it was. BAD.");
         for (int no : NO_SLEEPER) {
-            refused("bed of " + no, x -> x.bed(no, 0), BAD);
+            refused("of " + no, x -> x.bed(no, 0), BAD);
         }
         for (int no : NO_ROOM) {
-            refused("bed in " + no, x -> x.bed(0, no), BAD);
+            refused("in " + no, x -> x.bed(0, no), BAD);
         }
+    }
+
+    private static void letters() {
+        DUE.sentence("One letter more behind THE TAPE: how many it has. BAD: not 32 .. 126; FULL: 80.");
         for (int no : new int[] {31, 127, -1, 0, 65536 + 48, LOW, HIGH}) {
             refused("letter " + no, x -> x.type(no), BAD);
             refused("letter " + no + ", full", RefusalsTest::full, x -> x.type(no), BAD);
         }
         refused("an 81st letter", RefusalsTest::full, x -> x.type('0'), FULL);
         refused("an 81st blank", RefusalsTest::full, x -> x.type(' '), FULL);
-        for (String text : new String[] {"", " ", "4", "0", "0:", "0:61", "0:1,", "0:1,1:1;p010,f12", "0:1;p010 0"}) {
-            int fault = Due.house(new ThankingGifts(), text);
-            DUE.isTrue("a fault: " + text, fault <= -20);
-            refused("fault of '" + text + "'", RefusalsTest::withoutTape, x -> Due.house(x, text), fault);
+    }
+
+    private static void faults() {
+        DUE.sentence("A FAULT (all else stays).");
+        String[] texts = {"", " ", "4", "0", "0:", "0:61", "0:1,", "0:1,1:1;p010,f12", "0:1;p010 0"};
+        int[] places = {0, 1, 0, 1, 2, 2, 4, 16, 9};
+        for (int i = 0; i < texts.length; i++) {
+            String text = texts[i];
+            refused("'" + text + "'", RefusalsTest::withoutTape, x -> Due.house(x, text), -20 - places[i]);
         }
     }
 
@@ -239,7 +306,9 @@ public final class RefusalsTest {
         return x;
     }
 
-    private static void whatIsDone() {
+    private static void nightsAndDrifts() {
+        DUE.sentence("BAD; FULL: the NIGHT would be above 9999.");
+        DUE.sentence("BAD; FULL: likewise.");
         for (int no : NOT_1_TO_40) {
             refused("nights " + no, x -> x.nights(no), BAD);
             refused("drift " + no, x -> x.drift(no), BAD);
@@ -250,186 +319,261 @@ public final class RefusalsTest {
             refused("nights " + n + ", late", RefusalsTest::late, x -> x.nights(n), FULL);
             refused("drift " + n + ", late", RefusalsTest::late, x -> x.drift(n), FULL);
         }
+    }
+
+    private static void movedPassedGivenBack() {
+        DUE.sentence("MOVED: in which ROOM it was. BAD; NOT: it is there.");
         for (int no : NO_THING) {
-            refused("move " + no, x -> x.move(no, 0), BAD);
-            refused("pass " + no, x -> x.pass(no, 0), BAD);
-            refused("back " + no, x -> x.back(no), BAD);
+            refused("thing " + no, x -> x.move(no, 0), BAD);
         }
         for (int no : NO_ROOM) {
-            refused("move to " + no, x -> x.move(0, no), BAD);
+            refused("to " + no, x -> x.move(0, no), BAD);
+        }
+        refused("to where it is", x -> x.move(0, 2), NOT);
+        DUE.sentence("PASSED: what was LEFT. BAD; NOT: it is of that GIVER.");
+        for (int no : NO_THING) {
+            refused("thing " + no, x -> x.pass(no, 0), BAD);
         }
         for (int no : NO_GIVER) {
-            refused("pass to " + no, x -> x.pass(0, no), BAD);
+            refused("to " + no, x -> x.pass(0, no), BAD);
         }
-        refused("move to where it is", x -> x.move(0, 2), NOT);
-        refused("pass to whose it is", x -> x.pass(1, 7), NOT);
-        refused("back, nothing left", x -> x.back(2), NOT);
+        refused("to whose it is", x -> x.pass(1, 7), NOT);
+        DUE.sentence("GIVEN BACK: what was LEFT. BAD; NOT: nothing is.");
+        for (int no : NO_THING) {
+            refused("thing " + no, x -> x.back(no), BAD);
+        }
+        refused("nothing is left", x -> x.back(2), NOT);
+    }
+
+    private static void undoneAndSeeds() {
+        DUE.sentence("UNDONE: how many more may be. NONE: none is known.");
+        refused("none is known", () -> Due.houseOf("0:0;p010"), x -> x.undo(), NONE);
+        DUE.sentence("THE DRAW becomes v: what it was. BAD: below 0.");
         for (int no : new int[] {-1, LOW, LOW + 1}) {
             refused("seed " + no, x -> x.seed(no), BAD);
         }
-        refused("undo of none", () -> Due.houseOf("0:0;p010"), x -> x.undo(), NONE);
     }
 
     private static void foretold() {
+        DUE.sentence("What is LEFT of a THING behind n NIGHTS. BAD.");
         for (int no : NO_THING) {
-            refused("ahead of " + no, x -> x.ahead(no, 5), BAD);
+            refused("thing " + no, x -> x.ahead(no, 5), BAD);
         }
+        DUE.sentence("How LOUD a ROOM is behind n NIGHTS. BAD.");
         for (int no : NO_ROOM) {
-            refused("loud ahead in " + no, x -> x.loudAhead(no, 5), BAD);
+            refused("room " + no, x -> x.loudAhead(no, 5), BAD);
         }
+        DUE.sentence("How often a SLEEPER SLEPT in the next n NIGHTS. BAD.");
         for (int no : NO_SLEEPER) {
-            refused("sleeps " + no, x -> x.sleeps(no, 5), BAD);
+            refused("sleeper " + no, x -> x.sleeps(no, 5), BAD);
         }
+        DUE.sentence("behind n NIGHTS (0 .. 60)");
         for (int no : NOT_0_TO_60) {
             refused("ahead by " + no, x -> x.ahead(0, no), BAD);
             refused("loud ahead by " + no, x -> x.loudAhead(0, no), BAD);
             refused("sleeps by " + no, x -> x.sleeps(0, no), BAD);
         }
+        DUE.sentence("PEACE; NONE.");
         refused("no peace", () -> Due.houseOf("0:0;f090"), x -> x.peace(), NONE);
     }
 
-    private static void hadBetter() {
+    private static void bestRooms() {
+        DUE.sentence("BEST ROOM: which (what 0), how often (1). BAD.");
         for (int what = 0; what < 2; what++) {
             int asked = what;
             for (int no : NO_THING) {
-                refused("best of " + no, x -> x.best(no, 5, asked), BAD);
-            }
-            for (int no : NO_SLEEPER) {
-                refused("best bed of " + no, x -> x.bestBed(no, 5, asked), BAD);
+                refused("thing " + no, x -> x.best(no, 5, asked), BAD);
             }
             for (int no : NOT_1_TO_40) {
-                refused("best for " + no, x -> x.best(0, no, asked), BAD);
-                refused("best bed for " + no, x -> x.bestBed(0, no, asked), BAD);
-                refused("change for " + no, x -> x.change(no, asked), BAD);
-                refused("backs for " + no, x -> x.backs(no, asked), BAD);
+                refused("for " + no, x -> x.best(0, no, asked), BAD);
             }
-            refused("no change", () -> Due.houseOf("0:0,1:0,2:0,3:0;p010"), x -> x.change(40, asked), NONE);
         }
         for (int no : NOT_0_OR_1) {
-            refused("best, what " + no, x -> x.best(0, 5, no), BAD);
-            refused("best bed, what " + no, x -> x.bestBed(0, 5, no), BAD);
-            refused("change, what " + no, x -> x.change(5, no), BAD);
-            refused("backs, what " + no, x -> x.backs(5, no), BAD);
+            refused("what " + no, x -> x.best(0, 5, no), BAD);
         }
     }
 
-    private static void lucky() {
+    private static void bestBeds() {
+        DUE.sentence("BED: which (what 0), how often (1). BAD.");
         for (int what = 0; what < 2; what++) {
             int asked = what;
             for (int no : NO_SLEEPER) {
-                refused("luck of " + no, x -> x.luck(no, 5, asked), BAD);
+                refused("sleeper " + no, x -> x.bestBed(no, 5, asked), BAD);
             }
-            for (int no : new int[] {-1, 11, LOW, HIGH}) {
-                refused("luck by " + no, x -> x.luck(0, no, asked), BAD);
+            for (int no : NOT_1_TO_40) {
+                refused("for " + no, x -> x.bestBed(0, no, asked), BAD);
             }
         }
         for (int no : NOT_0_OR_1) {
-            refused("luck, what " + no, x -> x.luck(0, 5, no), BAD);
+            refused("what " + no, x -> x.bestBed(0, 5, no), BAD);
         }
+    }
+
+    private static void changes() {
+        DUE.sentence("CHANGE (n 1 .. 40): 10 i and j (what 0), how often (1); NONE. BAD.");
+        for (int what = 0; what < 2; what++) {
+            int asked = what;
+            for (int no : NOT_1_TO_40) {
+                refused("for " + no, x -> x.change(no, asked), BAD);
+            }
+            refused("no pair", RefusalsTest::allAlike, x -> x.change(40, asked), NONE);
+        }
+        for (int no : NOT_0_OR_1) {
+            refused("what " + no, x -> x.change(5, no), BAD);
+            refused("what " + no + ", a choice of ours: nothing is asked, of no pair",
+                    RefusalsTest::allAlike, x -> x.change(5, no), BAD);
+        }
+    }
+
+    private static ThankingGifts allAlike() {
+        return Due.houseOf("0:0,1:0,2:0,3:0;p010");
+    }
+
+    private static void backs() {
+        DUE.sentence("BACK: how many (what 0), which (1); NONE. BAD.");
+        for (int no : NOT_1_TO_40) {
+            refused("for " + no, x -> x.backs(no, 0), BAD);
+            refused("for " + no + ", which", x -> x.backs(no, 1), BAD);
+        }
+        for (int no : NOT_0_OR_1) {
+            refused("what " + no, x -> x.backs(5, no), BAD);
+        }
+    }
+
+    private static void lucks() {
+        DUE.sentence("LUCK: above (what 0), below (1). BAD.");
+        for (int what = 0; what < 2; what++) {
+            int asked = what;
+            for (int no : NO_SLEEPER) {
+                refused("sleeper " + no, x -> x.luck(no, 5, asked), BAD);
+            }
+            for (int no : new int[] {-1, 11, LOW, HIGH}) {
+                refused("by " + no, x -> x.luck(0, no, asked), BAD);
+            }
+        }
+        for (int no : NOT_0_OR_1) {
+            refused("what " + no, x -> x.luck(0, 5, no), BAD);
+        }
+    }
+
+    private static void thanked() {
+        DUE.sentence("THANKED. BAD.");
         for (int no : NO_GIVER) {
-            refused("thanked " + no, x -> x.thanked(no), BAD);
+            refused("giver " + no, x -> x.thanked(no), BAD);
         }
     }
 
     private static void images() {
+        DUE.sentence("All is as it was then: 1. NONE: there is none.");
         refused("no image", RefusalsTest::full, x -> x.restore(), NONE);
         refused("no image, nobody", ThankingGifts::new, x -> x.restore(), NONE);
     }
 
-    private static void heard() {
-        for (int what = 0; what < 2; what++) {
-            int asked = what;
-            for (int sheet = 0; sheet < 4; sheet++) {
-                int of = sheet;
-                for (int no : NO_THING) {
-                    refused("heard of " + no, x -> x.heard(no, of, INTS, -1, 1, asked), BAD);
-                }
-                for (int no : NO_LANE) {
-                    refused("heard, lane " + no, x -> x.heard(0, of, no, -1, 1, asked), BAD);
-                }
-                for (int no : new int[] {0, -1, 9, LOW, HIGH}) {
-                    refused("heard for " + no, x -> x.heard(0, of, INTS, -1, no, asked), BAD);
-                }
+    /** Of each sheet, the one with nothing too, as of another lane and from -1 on: BAD comes ahead of all. */
+    private static void heardBad() {
+        DUE.sentence("KINDS (what 0), by how much DEAR (1). BAD; NULL; CAST; INDEX.");
+        for (int sheet = 0; sheet < 4; sheet++) {
+            int of = sheet;
+            for (int no : NO_THING) {
+                refused("thing " + no, x -> x.heard(no, of, INTS, -1, 1, 0), BAD);
             }
-            for (int no : NO_SHEET) {
-                refused("heard of sheet " + no, x -> x.heard(0, no, BYTES, 0, 1, asked), BAD);
+            for (int no : NO_LANE) {
+                refused("lane " + no, x -> x.heard(0, of, no, -1, 1, 0), BAD);
             }
-            for (int no : NO_PLACE) {
-                refused("heard of nothing", x -> x.heard(0, 3, BYTES, no, 1, asked), NULL);
-                refused("heard of another lane", x -> x.heard(0, 0, LONGS, no, 1, asked), CAST);
-                refused("heard from " + no, x -> x.heard(0, 0, BYTES, no, 8, asked), INDEX);
+            for (int no : new int[] {0, -1, 9, LOW, HIGH}) {
+                refused("for " + no, x -> x.heard(0, of, INTS, -1, no, 1), BAD);
+            }
+            for (int no : NOT_0_OR_1) {
+                refused("what " + no, x -> x.heard(0, of, BYTES, 0, 1, no), BAD);
+                refused("from -1, what " + no, x -> x.heard(0, of, BYTES, -1, 1, no), BAD);
             }
         }
-        for (int no : NOT_0_OR_1) {
-            refused("heard, what " + no, x -> x.heard(0, 0, BYTES, 0, 1, no), BAD);
-            refused("heard of nothing, what " + no, x -> x.heard(0, 3, BYTES, 0, 1, no), BAD);
-            refused("heard of another lane, what " + no, x -> x.heard(0, 0, LONGS, 0, 1, no), BAD);
-            refused("heard from -1, what " + no, x -> x.heard(0, 0, BYTES, -1, 1, no), BAD);
+        for (int no : NO_SHEET) {
+            refused("sheet " + no, x -> x.heard(0, no, BYTES, 0, 1, 0), BAD);
+            refused("sheet " + no + ", how dear", x -> x.heard(0, no, BYTES, -1, 1, 1), BAD);
         }
     }
 
-    private static void film() {
+    private static void heardOfTheMachine() {
+        DUE.sentence("(NULL, CAST, INDEX, SIZE in this order)");
+        for (int what = 0; what < 2; what++) {
+            int asked = what;
+            for (int no : NO_PLACE) {
+                refused("of nothing", x -> x.heard(0, 3, BYTES, no, 1, asked), NULL);
+                refused("of another lane", x -> x.heard(0, 0, LONGS, no, 1, asked), CAST);
+                refused("from " + no, x -> x.heard(0, 0, BYTES, no, 8, asked), INDEX);
+            }
+        }
+    }
+
+    private static void films() {
+        DUE.sentence("comes to a SHEET likewise: n. BAD; NULL; CAST; INDEX.");
         for (int sheet = 0; sheet < 4; sheet++) {
             int to = sheet;
             for (int no : NO_THING) {
-                refused("film of " + no, x -> x.film(no, 1, to, INTS, -1), BAD);
+                refused("thing " + no, x -> x.film(no, 1, to, INTS, -1), BAD);
             }
             for (int no : new int[] {0, -1, 25, LOW, HIGH}) {
-                refused("film for " + no, x -> x.film(0, no, to, INTS, -1), BAD);
+                refused("for " + no, x -> x.film(0, no, to, INTS, -1), BAD);
             }
             for (int no : NO_LANE) {
-                refused("film, lane " + no, x -> x.film(0, 1, to, no, -1), BAD);
+                refused("lane " + no, x -> x.film(0, 1, to, no, -1), BAD);
             }
         }
         for (int no : NO_SHEET) {
-            refused("film to sheet " + no, x -> x.film(0, 1, no, BYTES, 0), BAD);
+            refused("sheet " + no, x -> x.film(0, 1, no, BYTES, 0), BAD);
         }
         for (int no : NO_PLACE) {
-            refused("film to nothing", x -> x.film(0, 1, 3, BYTES, no), NULL);
-            refused("film to another lane", x -> x.film(0, 1, 0, LONGS, no), CAST);
-            refused("film to " + no, x -> x.film(0, 1, 0, BYTES, no), INDEX);
-            refused("film of 24 to " + no, x -> x.film(0, 24, 0, BYTES, no), INDEX);
+            refused("to nothing", x -> x.film(0, 1, 3, BYTES, no), NULL);
+            refused("to another lane", x -> x.film(0, 1, 0, LONGS, no), CAST);
+            refused("from " + no + " on", x -> x.film(0, 1, 0, BYTES, no), INDEX);
+            refused("24 from " + no + " on", x -> x.film(0, 24, 0, BYTES, no), INDEX);
         }
-        refused("film of 24 from 1 on", x -> x.film(0, 24, 0, BYTES, 1), INDEX);
-        refused("film of 9 to 8", x -> x.film(0, 9, 1, LONGS, 0), INDEX);
-        refused("film to none", x -> x.film(0, 1, 2, INTS, 0), INDEX);
+        refused("24 from 1 on", x -> x.film(0, 24, 0, BYTES, 1), INDEX);
+        refused("9 to 8", x -> x.film(0, 9, 1, LONGS, 0), INDEX);
+        refused("1 to none", x -> x.film(0, 1, 2, INTS, 0), INDEX);
     }
 
     private static void sheets() {
+        DUE.sentence("A SHEET holds a new row of a LANE: n. BAD: also n above 24; SIZE: n below 0.");
         for (int no : NO_SHEET) {
             refused("sheet " + no, x -> x.sheet(no, BYTES, 1), BAD);
             refused("sheet " + no + " of -1", x -> x.sheet(no, BYTES, -1), BAD);
-            refused("drop " + no, x -> x.drop(no), BAD);
         }
         for (int sheet = 0; sheet < 4; sheet++) {
             int of = sheet;
             for (int no : NO_LANE) {
-                refused("sheet, lane " + no, x -> x.sheet(of, no, 1), BAD);
-                refused("sheet, lane " + no + " of -1", x -> x.sheet(of, no, -1), BAD);
+                refused("lane " + no, x -> x.sheet(of, no, 1), BAD);
+                refused("lane " + no + " of -1", x -> x.sheet(of, no, -1), BAD);
             }
             for (int no : new int[] {25, HIGH}) {
-                refused("sheet of " + no, x -> x.sheet(of, BYTES, no), BAD);
+                refused("of " + no, x -> x.sheet(of, BYTES, no), BAD);
             }
             for (int no : new int[] {-1, LOW}) {
-                refused("sheet of " + no, x -> x.sheet(of, BYTES, no), SIZE);
+                refused("of " + no, x -> x.sheet(of, BYTES, no), SIZE);
             }
         }
-        refused("drop of nothing", x -> x.drop(3), NULL);
+        DUE.sentence("A SHEET holds nothing: how many items it had. BAD; NULL.");
+        for (int no : NO_SHEET) {
+            refused("sheet " + no, x -> x.drop(no), BAD);
+        }
+        refused("of nothing", x -> x.drop(3), NULL);
     }
 
     private static void items() {
+        DUE.sentence("becomes v, its lowest bits: 1. BAD; NULL; CAST; INDEX.");
         for (int no : NO_SHEET) {
-            refused("item of sheet " + no, x -> x.item(no, BYTES, 0, 5), BAD);
+            refused("sheet " + no, x -> x.item(no, BYTES, 0, 5), BAD);
         }
         for (int sheet = 0; sheet < 4; sheet++) {
             int of = sheet;
             for (int no : NO_LANE) {
-                refused("item, lane " + no, x -> x.item(of, no, -1, 5), BAD);
+                refused("lane " + no, x -> x.item(of, no, -1, 5), BAD);
             }
         }
         for (int no : NO_PLACE) {
-            refused("item of nothing", x -> x.item(3, BYTES, no, 5), NULL);
-            refused("item of another lane", x -> x.item(0, LONGS, no, 5), CAST);
+            refused("of nothing", x -> x.item(3, BYTES, no, 5), NULL);
+            refused("of another lane", x -> x.item(0, LONGS, no, 5), CAST);
             refused("item " + no, x -> x.item(0, BYTES, no, 5), INDEX);
         }
         refused("item 0 of another lane", x -> x.item(1, INTS, 0, 5), CAST);
@@ -438,27 +582,31 @@ public final class RefusalsTest {
     }
 
     private static void copies() {
+        DUE.sentence("BAD; NULL (either); CAST: of unlike LANES; INDEX.");
         for (int no : NO_SHEET) {
             for (int sheet = 0; sheet < 4; sheet++) {
                 int other = sheet;
-                refused("copy from sheet " + no, x -> x.copy(no, -1, other, 0, 1), BAD);
-                refused("copy to sheet " + no, x -> x.copy(other, -1, no, 0, 1), BAD);
+                refused("from sheet " + no, x -> x.copy(no, -1, other, 0, 1), BAD);
+                refused("to sheet " + no, x -> x.copy(other, -1, no, 0, 1), BAD);
             }
         }
         for (int no : NO_PLACE) {
-            refused("copy from nothing", x -> x.copy(3, no, 0, 0, 1), NULL);
-            refused("copy to nothing", x -> x.copy(0, no, 3, 0, 1), NULL);
-            refused("copy of nothing to nothing", x -> x.copy(3, no, 3, no, 1), NULL);
-            refused("copy of unlike lanes", x -> x.copy(0, no, 1, 0, 1), CAST);
-            refused("copy to unlike lanes", x -> x.copy(1, 0, 0, no, 1), CAST);
-            refused("copy from " + no, x -> x.copy(0, no, 0, 0, 1), INDEX);
-            refused("copy to " + no, x -> x.copy(0, 0, 0, no, 1), INDEX);
+            for (int sheet = 0; sheet < 3; sheet++) {
+                int other = sheet;
+                refused("from nothing", x -> x.copy(3, no, other, 0, 1), NULL);
+                refused("to nothing", x -> x.copy(other, no, 3, 0, 1), NULL);
+            }
+            refused("of nothing to nothing", x -> x.copy(3, no, 3, no, 1), NULL);
+            refused("of unlike lanes", x -> x.copy(0, no, 1, 0, 1), CAST);
+            refused("to unlike lanes", x -> x.copy(1, 0, 0, no, 1), CAST);
+            refused("from " + no + " on", x -> x.copy(0, no, 0, 0, 1), INDEX);
+            refused("to " + no, x -> x.copy(0, 0, 0, no, 1), INDEX);
         }
         for (int no : new int[] {-1, 25, LOW, HIGH}) {
-            refused("copy of " + no, x -> x.copy(0, 0, 0, 0, no), INDEX);
+            refused("of " + no, x -> x.copy(0, 0, 0, 0, no), INDEX);
         }
-        refused("copy of 24 by one up", x -> x.copy(0, 0, 0, 1, 24), INDEX);
-        refused("copy of 24 by one down", x -> x.copy(0, 1, 0, 0, 24), INDEX);
+        refused("of 24 by one up", x -> x.copy(0, 0, 0, 1, 24), INDEX);
+        refused("of 24 by one down", x -> x.copy(0, 1, 0, 0, 24), INDEX);
     }
 
     private static void ofANewObject() {
@@ -486,6 +634,7 @@ public final class RefusalsTest {
     }
 
     private static void askingChangesNothing() {
+        DUE.sentence("FORETOLD from now (nothing is changed)");
         List<ToIntFunction<ThankingGifts>> calls = List.of(x -> x.of(0, 4), x -> x.gift(0, 5), x -> x.room(0, 0),
                 x -> x.count(4), x -> x.ahead(0, 60), x -> x.loudAhead(0, 60), x -> x.sleeps(0, 60), x -> x.peace(),
                 x -> x.best(0, 40, 0), x -> x.best(4, 40, 1), x -> x.bestBed(0, 40, 0), x -> x.bestBed(2, 40, 1),

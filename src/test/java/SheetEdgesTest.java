@@ -154,7 +154,15 @@ public final class SheetEdgesTest {
             due("no item", x.item(1, 2, 0, 1), NULL);
         }
         write(x, 1, 2, "5");
+        write(x, 3, 1, "5");
         x.drop(1);
+        for (int lane = 0; lane < 4; lane++) {
+            due("no item, whatever it was", x.item(1, lane, 0, 1), NULL);
+            due("no row to be heard", x.heard(0, 1, lane, 0, 1, 0), NULL);
+            due("none for a film", x.film(0, 1, 1, lane, 0), NULL);
+        }
+        due("none to be copied", x.copy(1, 0, 3, 0, 1), NULL);
+        due("none to copy to", x.copy(3, 0, 1, 0, 1), NULL);
         x.sheet(1, 2, 1);
         DUE.isTrue("anew it is 0", isZero(x, 1, 2, 0));
         write(x, 0, 0, "12");

@@ -346,6 +346,7 @@ public final class UndoneEdgesTest {
         due("none yet", x.restore(), NONE);
         x.sheet(0, 1, 3);
         Due.type(x, "1:");
+        x.seed(4321);
         due("kept", x.image(), 1);
         x.sheet(0, 2, 5);
         x.sheet(1, 2, 6);
@@ -353,7 +354,7 @@ public final class UndoneEdgesTest {
         x.seed(9);
         x.bed(0, 0);
         due("restored", x.restore(), 1);
-        due("the draw", x.seed(1), 1);
+        due("the draw", x.seed(1), 4321);
         due("the bed", x.of(0, 0), 2);
         due("a sheet as it is", x.drop(0), 5);
         due("another", x.drop(1), 6);
